@@ -1,0 +1,125 @@
+/** What the tests share: texts are fed as the document says, and answers are held against those that are due. */
+final class Bench {
+    /** Stands in a text before the place of its fault, and is taken out of it. */
+    static final char MARK = '`';
+
+    /** What a call that throws is told as. */
+    static final int INDEX = -101;
+    static final int ARGUMENT = -102;
+    static final int UNSUPPORTED = -103;
+
+    private static int wrong = 0;
+    private static int asked = 0;
+
+    private Bench() {
+    }
+
+    static void due(String call, long got, long want) {
+        asked++;
+        if (got != want) {
+            wrong++;
+            System.out.println(call + " answered " + got + ", due is " + want);
+        }
+    }
+
+    static void done(String test) {
+        System.out.println(test + ": " + asked + " answers, " + wrong + " are not as due");
+        if (wrong != 0) {
+            System.exit(1);
+        }
+    }
+
+    /** Puts a text behind what the tape has. */
+    static void put(CircuitText x, String text) {
+        int before = 0;
+        for (int i = 0; i < text.length(); i += 20) {
+            int has = x.feed(four(text, i), four(text, i + 4), four(text, i + 8), four(text, i + 12), four(text, i + 16));
+            before = has - 20 - i;
+        }
+        if (!text.isEmpty()) {
+            x.end(before + text.length());
+        }
+    }
+
+    private static int four(String text, int from) {
+        int value = 0;
+        for (int i = from; i < from + 4; i++) {
+            value = value << 8 | (i < text.length() ? text.charAt(i) & 255 : '#');
+        }
+        return value;
+    }
+
+    /** The text has no fault; answers the object that has read it. */
+    static CircuitText right(String text) {
+        CircuitText x = new CircuitText();
+        put(x, text);
+        due("read() of " + text, x.read(), CircuitText.NONE);
+        due("fault() of " + text, x.fault(), 0);
+        return x;
+    }
+
+    /** The text has this fault where its mark stands. */
+    static void faulty(int code, String marked) {
+        int place = marked.indexOf(MARK);
+        String text = marked.substring(0, place) + marked.substring(place + 1);
+        CircuitText x = new CircuitText();
+        put(x, text);
+        due("read() of " + marked, x.read(), place);
+        due("fault() of " + marked, x.fault(), code);
+        due("count() of " + marked, x.count(), 0);
+    }
+
+    static int feed(CircuitText x, int a, int b, int c, int d, int e) {
+        try {
+            return x.feed(a, b, c, d, e);
+        } catch (UnsupportedOperationException thrown) {
+            return UNSUPPORTED;
+        }
+    }
+
+    static int end(CircuitText x, int n) {
+        try {
+            x.end(n);
+            return 0;
+        } catch (IllegalArgumentException thrown) {
+            return ARGUMENT;
+        }
+    }
+
+    static int module(CircuitText x, int m, int what) {
+        try {
+            return x.module(m, what);
+        } catch (IndexOutOfBoundsException thrown) {
+            return INDEX;
+        } catch (IllegalArgumentException thrown) {
+            return ARGUMENT;
+        }
+    }
+
+    static int declared(CircuitText x, int m, int k, int what) {
+        try {
+            return x.declared(m, k, what);
+        } catch (IndexOutOfBoundsException thrown) {
+            return INDEX;
+        } catch (IllegalArgumentException thrown) {
+            return ARGUMENT;
+        }
+    }
+
+    static long beginning(CircuitText x, int m, int k) {
+        try {
+            return x.beginning(m, k);
+        } catch (IndexOutOfBoundsException thrown) {
+            return INDEX;
+        }
+    }
+
+    static int find(CircuitText x, int m, String text) {
+        put(x, text);
+        try {
+            return x.find(m);
+        } catch (IndexOutOfBoundsException thrown) {
+            return INDEX;
+        }
+    }
+}
