@@ -587,12 +587,6 @@ public final class CircuitText {
                 place = at;
             }
         }
-
-        void refuse(int why, int at) {
-            code = why;
-            place = at;
-            throw new IllegalStateException("the text is not well written");
-        }
     }
 
     /** Goes through the text by the grammar, and hands what it finds to the meaning in the order of the text. */
@@ -615,38 +609,29 @@ public final class CircuitText {
             }
         }
 
+        /** The one way to the next token: what can't be taken here ends the reading. */
         private Token take(int kind) {
             Token taken = now;
-            if (taken.kind != kind) {
-                verdict.refuse(taken.kind == BAD ? BAD_TEXT : BAD_GRAMMAR, taken.place);
+            switch (kind) {
+                case '(': case '[': case '{': case '?': case BEGIN: case IF: case CASE:
+                    open++;
+                    break;
+                // A ? and an if are not here: no token of their own closes them.
+                case ')': case ']': case '}': case END: case ENDCASE:
+                    open--;
+                    break;
+                default:
+                    break;
             }
-            if (opens(kind)) {
-                open++;
-            } else if (closes(kind)) {
-                open--;
-            }
-            if (open > OPEN_MOST) {
-                verdict.refuse(TOO_DEEP, taken.place);
+            if (taken.kind != kind || open > OPEN_MOST) {
+                verdict.code = taken.kind == BAD ? BAD_TEXT : taken.kind != kind ? BAD_GRAMMAR : TOO_DEEP;
+                verdict.place = taken.place;
+                throw new IllegalStateException("the text is not well written");
             }
             if (taken.next != null) {
                 now = taken.next;
             }
             return taken;
-        }
-
-        private static boolean opens(int kind) {
-            switch (kind) {
-                case '(': case '[': case '{': case '?': case BEGIN: case IF: case CASE: return true;
-                default: return false;
-            }
-        }
-
-        /** A ? and an if have no token that closes them. */
-        private static boolean closes(int kind) {
-            switch (kind) {
-                case ')': case ']': case '}': case END: case ENDCASE: return true;
-                default: return false;
-            }
         }
 
         private void unitText() {
@@ -663,12 +648,12 @@ public final class CircuitText {
             take(')');
             take(';');
             for (int i = 0; i < STEPS_MOST && now.kind != ENDMODULE; i++) {
-                // Items are told apart here and not in a method of their own: calls stay few that way.
+                // Items are told apart here, not in a method of their own, so that calls go less deep.
                 switch (now.kind) {
                     case WIRE: wire(); break;
                     case REG: register(A_REG); take(';'); break;
                     case ASSIGN: assign(); break;
-                    case ALWAYS: always(); break;
+                    case ALWAYS: alwaysHead(); statement(); break;
                     case ASSERT: assertion(); break;
                     default: instance();
                 }
@@ -734,7 +719,7 @@ public final class CircuitText {
             take(';');
         }
 
-        private void always() {
+        private void alwaysHead() {
             take(ALWAYS);
             take('@');
             take('(');
@@ -742,7 +727,6 @@ public final class CircuitText {
             take(CLOCK);
             take(')');
             meaning.unit().always++;
-            statement();
         }
 
         private void assertion() {
@@ -844,7 +828,7 @@ public final class CircuitText {
             take(';');
         }
 
-        /** From behind the bracket that begins it. */
+        /** From behind the bracket that begins it; width is that of the name before. */
         private int part(Token bracket, int width) {
             int high = take(PLAIN).plain();
             int low = high;
@@ -853,7 +837,9 @@ public final class CircuitText {
                 low = take(PLAIN).plain();
             }
             take(']');
-            return meaning.partWidth(bracket, width, high, low);
+            boolean right = low <= high && high < width;
+            verdict.check(right, WRONG_WIDTH, bracket.place);
+            return right ? high - low + 1 : 1;
         }
 
         /** Answers the width, as all do that read a piece of an exp. */
@@ -1029,12 +1015,6 @@ public final class CircuitText {
             boolean right = low == 0 && high < WIDTH_MOST;
             verdict.check(right, WRONG_WIDTH, bracket.place);
             return right ? high + 1 : 1;
-        }
-
-        int partWidth(Token bracket, int width, int high, int low) {
-            boolean right = low <= high && high < width;
-            verdict.check(right, WRONG_WIDTH, bracket.place);
-            return right ? high - low + 1 : 1;
         }
 
         int bracesWidth(Token brace, int width) {

@@ -7,6 +7,7 @@ final class Bench {
     static final int INDEX = -101;
     static final int ARGUMENT = -102;
     static final int UNSUPPORTED = -103;
+    static final int MACHINE = -104;
 
     private static int wrong = 0;
     private static int asked = 0;
@@ -69,11 +70,17 @@ final class Bench {
         due("count() of " + marked, x.count(), 0);
     }
 
+    /** The class itself has thrown it, not the machine or the library for it. */
+    private static boolean byHand(RuntimeException thrown, Class<?> due) {
+        StackTraceElement[] calls = thrown.getStackTrace();
+        return thrown.getClass() == due && calls.length > 0 && calls[0].getClassName().equals("CircuitText");
+    }
+
     static int feed(CircuitText x, int a, int b, int c, int d, int e) {
         try {
             return x.feed(a, b, c, d, e);
         } catch (UnsupportedOperationException thrown) {
-            return UNSUPPORTED;
+            return byHand(thrown, UnsupportedOperationException.class) ? UNSUPPORTED : MACHINE;
         }
     }
 
@@ -82,7 +89,7 @@ final class Bench {
             x.end(n);
             return 0;
         } catch (IllegalArgumentException thrown) {
-            return ARGUMENT;
+            return byHand(thrown, IllegalArgumentException.class) ? ARGUMENT : MACHINE;
         }
     }
 
@@ -90,9 +97,9 @@ final class Bench {
         try {
             return x.module(m, what);
         } catch (IndexOutOfBoundsException thrown) {
-            return INDEX;
+            return byHand(thrown, IndexOutOfBoundsException.class) ? INDEX : MACHINE;
         } catch (IllegalArgumentException thrown) {
-            return ARGUMENT;
+            return byHand(thrown, IllegalArgumentException.class) ? ARGUMENT : MACHINE;
         }
     }
 
@@ -100,9 +107,9 @@ final class Bench {
         try {
             return x.declared(m, k, what);
         } catch (IndexOutOfBoundsException thrown) {
-            return INDEX;
+            return byHand(thrown, IndexOutOfBoundsException.class) ? INDEX : MACHINE;
         } catch (IllegalArgumentException thrown) {
-            return ARGUMENT;
+            return byHand(thrown, IllegalArgumentException.class) ? ARGUMENT : MACHINE;
         }
     }
 
@@ -110,7 +117,7 @@ final class Bench {
         try {
             return x.beginning(m, k);
         } catch (IndexOutOfBoundsException thrown) {
-            return INDEX;
+            return byHand(thrown, IndexOutOfBoundsException.class) ? INDEX : MACHINE;
         }
     }
 
@@ -119,7 +126,7 @@ final class Bench {
         try {
             return x.find(m);
         } catch (IndexOutOfBoundsException thrown) {
-            return INDEX;
+            return byHand(thrown, IndexOutOfBoundsException.class) ? INDEX : MACHINE;
         }
     }
 }

@@ -44,6 +44,7 @@ public final class TextTest {
 
     private static void words() {
         Bench.right("module _ ( input _a$0 , input A , input a ) ; endmodule");
+        Bench.right("module azAZ_09$ ( input Az09 , input Zz$ , input z_ , input Z ) ; endmodule");
         Bench.right("module modules ( input Module , input end1 , input clock_ ) ; endmodule");
         Bench.faulty(2, "module `clock ( ) ; endmodule");
         Bench.faulty(2, "module `posedge ( ) ; endmodule");
@@ -84,6 +85,8 @@ public final class TextTest {
         begins("4'd15", 4, 15);
         begins("8'hfF", 8, 255);
         begins("24'haBcDeF", 24, 0xabcdef);
+        begins("24'hAbCdEf", 24, 0xabcdef);
+        begins("40'h0123456789", 40, 0x0123456789L);
         begins("63'd9223372036854775807", 63, Long.MAX_VALUE);
         begins("64'd9223372036854775808", 64, Long.MIN_VALUE);
         begins("64'd18446744073709551615", 64, -1);
@@ -108,6 +111,10 @@ public final class TextTest {
         wrongNumber("8'hg");
         wrongNumber("8'h1_0");
         wrongNumber("8'h1$");
+        wrongNumber("8'hf$");
+        wrongNumber("8'hf_");
+        wrongNumber("8'hG");
+        wrongNumber("64'hZ");
         wrongNumber("8'h");
         wrongNumber("8'");
         wrongNumber("8'1");

@@ -1,0 +1,82 @@
+/** How operators bind: a text without parentheses means what the same text with the due ones means. */
+public final class RankTest {
+    private static final String[][] RANKS = {
+        {"||"}, {"&&"}, {"|"}, {"^"}, {"&"}, {"==", "!="}, {"<", "<=", ">", ">="}, {"<<", ">>"}, {"+", "-"}, {"*"}};
+    private static final int[] WIDTHS = {1, 2, 5};
+    private static final String[] UNARY = {"~", "!", "-", "&", "|", "^"};
+
+    private static CircuitText reader;
+    private static int calls;
+
+    public static void main(String[] args) {
+        for (int first = 0; first < RANKS.length; first++) {
+            for (int second = 0; second < RANKS.length; second++) {
+                for (String one : RANKS[first]) {
+                    for (String two : RANKS[second]) {
+                        pair(one, two, first >= second);
+                    }
+                }
+            }
+        }
+        for (String[] rank : RANKS) {
+            for (String operator : rank) {
+                unary(operator);
+                conditional(operator);
+            }
+        }
+        Bench.done("RankTest");
+    }
+
+    /** The first operator comes first if it binds as much as the second one, or more. */
+    private static void pair(String one, String two, boolean left) {
+        for (int widths = 0; widths < 27; widths++) {
+            String a = number(widths);
+            String b = number(widths / 3);
+            String c = number(widths / 9);
+            String due = left ? "(" + a + one + b + ")" + two + c : a + one + "(" + b + two + c + ")";
+            same(a + one + b + two + c, due);
+        }
+    }
+
+    private static void unary(String operator) {
+        for (String unary : UNARY) {
+            for (int widths = 0; widths < 9; widths++) {
+                String a = number(widths);
+                String b = number(widths / 3);
+                same(unary + a + operator + b, "(" + unary + a + ")" + operator + b);
+                same(a + operator + " " + unary + b, a + operator + "(" + unary + b + ")");
+            }
+        }
+    }
+
+    private static void conditional(String operator) {
+        for (int widths = 0; widths < 27; widths++) {
+            String a = number(widths);
+            String b = number(widths / 3);
+            String c = number(widths / 9);
+            same(a + operator + b + "?" + c + ":" + c, "(" + a + operator + b + ")?" + c + ":" + c);
+            same(a + "?" + b + ":" + b + operator + c, a + "?" + b + ":(" + b + operator + c + ")");
+            same(a + "?" + b + operator + c + ":" + b, a + "?(" + b + operator + c + "):" + b);
+            same(a + "?" + b + ":" + c + "?" + b + ":" + b, a + "?" + b + ":(" + c + "?" + b + ":" + b + ")");
+        }
+    }
+
+    private static String number(int which) {
+        return WIDTHS[which % 3] + "'d1 ";
+    }
+
+    private static void same(String exp, String due) {
+        Bench.due("fault and cost of " + exp + " as of " + due, told(exp), told(due));
+    }
+
+    /** Its cost, or its fault as a number below 0. The width is a part of the cost, as assert asks for it. */
+    private static int told(String exp) {
+        if (reader == null || calls > 400) {
+            reader = new CircuitText();
+            calls = 0;
+        }
+        calls += 12;
+        Bench.put(reader, "module a();assert(" + exp + ");endmodule");
+        return reader.read() == CircuitText.NONE ? reader.module(0, 6) : -reader.fault();
+    }
+}
