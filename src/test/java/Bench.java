@@ -42,6 +42,15 @@ final class Bench {
         }
     }
 
+    /** Blanks until the tape of an object has so many bytes, twenty at least. It is empty before. */
+    static void fill(CircuitText x, int length) {
+        for (int i = 0; i < length / 20; i++) {
+            x.feed(0x20202020, 0x20202020, 0x20202020, 0x20202020, 0x20202020);
+        }
+        x.end(length - 20);
+        x.feed(0x20202020, 0x20202020, 0x20202020, 0x20202020, 0x20202020);
+    }
+
     private static int four(String text, int from) {
         int value = 0;
         for (int i = from; i < from + 4; i++) {
@@ -62,12 +71,32 @@ final class Bench {
     /** The text has this fault where its mark stands. */
     static void faulty(int code, String marked) {
         int place = marked.indexOf(MARK);
-        String text = marked.substring(0, place) + marked.substring(place + 1);
+        faulty(code, place, marked.substring(0, place) + marked.substring(place + 1));
+    }
+
+    /** The same for a text that may hold the mark's own byte. */
+    static void faulty(int code, int place, String text) {
         CircuitText x = new CircuitText();
         put(x, text);
-        due("read() of " + marked, x.read(), place);
-        due("fault() of " + marked, x.fault(), code);
-        due("count() of " + marked, x.count(), 0);
+        due("read() of " + text, x.read(), place);
+        due("fault() of " + text, x.fault(), code);
+        due("count() of " + text, x.count(), 0);
+    }
+
+    /** The text is right, where code is 0 and its mark is passed over; or it has this fault where its mark stands. */
+    static void holds(int code, String marked) {
+        if (code == 0) {
+            right(marked.replace(String.valueOf(MARK), ""));
+        } else {
+            faulty(code, marked);
+        }
+    }
+
+    /** How many bytes the tape has; it has them still. */
+    static int length(CircuitText x) {
+        int length = x.feed(0, 0, 0, 0, 0) - 20;
+        x.end(length);
+        return length;
     }
 
     /** The class itself has thrown it, not the machine or the library for it. */

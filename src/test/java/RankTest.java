@@ -69,14 +69,25 @@ public final class RankTest {
         Bench.due("fault and cost of " + exp + " as of " + due, told(exp), told(due));
     }
 
-    /** Its cost, or its fault as a number below 0. The width is a part of the cost, as assert asks for it. */
+    /** Its cost, or a number below 0 that tells its fault and where it is. An assert asks for the width, so the cost tells that, too. */
     private static int told(String exp) {
         if (reader == null || calls > 400) {
             reader = new CircuitText();
             calls = 0;
         }
         calls += 12;
-        Bench.put(reader, "module a();assert(" + exp + ");endmodule");
-        return reader.read() == CircuitText.NONE ? reader.module(0, 6) : -reader.fault();
+        String text = "module a();assert(" + exp + ");endmodule";
+        Bench.put(reader, text);
+        int place = reader.read();
+        return place == CircuitText.NONE ? reader.module(0, 6) : -1000 * reader.fault() - before(text, place);
+    }
+
+    /** How many bytes stand before a place, but for parentheses and blanks, in which alone two texts may differ. */
+    private static int before(String text, int place) {
+        int count = 0;
+        for (int i = 0; i < place; i++) {
+            count += "() ".indexOf(text.charAt(i)) < 0 ? 1 : 0;
+        }
+        return count;
     }
 }
