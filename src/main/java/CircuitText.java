@@ -999,7 +999,8 @@ public final class CircuitText {
         }
 
         void spend(int cost) {
-            unit.cost = Math.min(unit.cost + cost, COST_MOST + 1);
+            int sum = unit.cost + cost;
+            unit.cost = sum > COST_MOST ? COST_MOST + 1 : sum;
         }
 
         int widthOf(Name name) {
